@@ -739,7 +739,13 @@ public final class PromiseTest {
         y.join(1, 0, 3, 0, 4);
         check.due("there is a way", y.way(0, 0, 3, 0), 50);
         check.due("no plain one", y.plain(0, 0, 3, 0, 5), 0);
-        // A ring: a way does not come to its first or its last piece between.
+        // Round 1 and back through 0 there is another way to 2, but it comes to 0 twice.
+        FloorGraph v = twoWayFloor(5, 5, 5);
+        v.join(0, 1, 1, 0, 1);
+        v.join(1, 1, 0, 1, 1);
+        v.join(0, 0, 2, 0, 1);
+        check.due("not back through the first piece", v.plain(0, 0, 2, 0, 5), 1);
+        // A ring: a way does not go on from its last piece.
         FloorGraph z = line(3);
         z.join(2, 1, 0, 0, 1);
         check.due("round the ring either way", z.plain(0, 0, 1, 0, 5), 2);
