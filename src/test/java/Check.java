@@ -1,22 +1,70 @@
+import java.lang.reflect.InvocationTargetException;
+import java.lang.reflect.Method;
+import java.lang.reflect.Modifier;
+import java.util.Arrays;
+import java.util.Comparator;
+import java.util.List;
+
 /** Counts what was looked at, and prints what was not as due. */
 final class Check {
     private int looked = 0;
     private int wrong = 0;
-    private String promise = "";
+    private String test = "";
 
     interface Call {
         void run();
     }
 
-    void promise(String name) {
-        promise = name;
+    interface Make {
+        FloorGraph floor();
+    }
+
+    interface Use {
+        void on(FloorGraph x);
+    }
+
+    /** Runs each static method of a class that takes a Check: a test of its own, named as it is. */
+    static void runAll(Class<?> tests) {
+        Check check = new Check();
+        List<Method> methods = Arrays.stream(tests.getDeclaredMethods())
+                .filter(Check::isTest)
+                .sorted(Comparator.comparing(Method::getName))
+                .toList();
+        for (Method method : methods) {
+            check.runOne(tests.getName(), method);
+        }
+        check.end(tests.getName() + ": " + methods.size() + " tests");
+    }
+
+    private static boolean isTest(Method method) {
+        return Modifier.isStatic(method.getModifiers())
+                && !method.isSynthetic()
+                && Arrays.equals(method.getParameterTypes(), new Class<?>[] {Check.class});
+    }
+
+    private void runOne(String tests, Method method) {
+        name(tests + "." + method.getName());
+        int before = looked;
+        try {
+            method.setAccessible(true);
+            method.invoke(null, this);
+            due("anything looked at", looked > before, true);
+        } catch (InvocationTargetException e) {
+            due("the whole test", "threw " + e.getCause(), "no exception");
+        } catch (IllegalAccessException e) {
+            due("the whole test", "was not run: " + e, "no exception");
+        }
+    }
+
+    void name(String told) {
+        test = told;
     }
 
     void due(String call, long got, long want) {
         looked++;
         if (got != want) {
             wrong++;
-            System.out.println(promise + ": " + call + " answered " + got + ", due is " + want);
+            System.out.println(test + ": " + call + " answered " + got + ", due is " + want);
         }
     }
 
@@ -28,7 +76,7 @@ final class Check {
         looked++;
         if (!got.equals(want)) {
             wrong++;
-            System.out.println(promise + ": " + call + " gave " + got + ", due is " + want);
+            System.out.println(test + ": " + call + " gave " + got + ", due is " + want);
         }
     }
 
@@ -53,6 +101,18 @@ final class Check {
         refused(call, ArrayIndexOutOfBoundsException.class, made);
     }
 
+    /** The call is refused, and the floor is then as one on which it was never made. */
+    void refusedWhole(String call, Class<? extends RuntimeException> want, Make make, Use made) {
+        FloorGraph x = make.floor();
+        refused(call, want, () -> made.on(x));
+        due("the floor after " + call, Floors.picture(x), Floors.picture(make.floor()));
+    }
+
+    /** A wrong argument on the yard of Floors. */
+    void wrongArgument(String call, Use made) {
+        refusedWhole(call, IllegalArgumentException.class, Floors::yard, made);
+    }
+
     private static String thrownBy(Call made) {
         try {
             made.run();
@@ -62,8 +122,8 @@ final class Check {
         }
     }
 
-    void end(String test) {
-        System.out.println(test + ": " + looked + " answers looked at, " + wrong + " not as due");
+    void end(String tests) {
+        System.out.println(tests + ", " + looked + " answers looked at, " + wrong + " not as due");
         if (wrong != 0 || looked == 0) {
             System.exit(1);
         }

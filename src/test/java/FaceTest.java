@@ -46,7 +46,7 @@ public final class FaceTest {
 
     public static void main(String[] args) {
         Check check = new Check();
-        check.promise("face");
+        check.name("face");
         check.due("modifiers of the class", FloorGraph.class.getModifiers(),
                 Modifier.PUBLIC | Modifier.FINAL);
         TreeSet<String> seen = new TreeSet<>();

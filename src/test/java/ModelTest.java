@@ -23,7 +23,7 @@ public final class ModelTest {
         this.mostPieces = 3 + run % 6;
         this.mostJoins = 4 + run % 9;
         this.seed = run * 7919L + 17;
-        check.promise("run " + run);
+        check.name("run " + run);
     }
 
     public static void main(String[] args) {
