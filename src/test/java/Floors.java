@@ -1,3 +1,5 @@
+import java.util.Arrays;
+
 /** Floors on which the tests drive, and what can be seen of a floor. */
 final class Floors {
     static final int LOW = Integer.MIN_VALUE;
@@ -54,6 +56,13 @@ final class Floors {
         x.way(0, 0, 3, 0);
         x.table(0, 1);
         return x;
+    }
+
+    /** Twenty two-way pieces of level 0 and of 5 seconds, and robot 0 of width 50. */
+    static FloorGraph twoWayTwenty() {
+        int[] lengths = new int[20];
+        Arrays.fill(lengths, 5);
+        return twoWay(lengths);
     }
 
     /** Twenty pieces of level 0 but for the last one, of level 1. */

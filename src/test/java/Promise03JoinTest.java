@@ -154,4 +154,14 @@ public final class Promise03JoinTest {
         check.due("back", x.way(0, 1, 0, 0), 8);
         check.due("barred in none", x.turn(1, 0, false), 0);
     }
+
+    /** The last of twenty pieces is joined by both its ends as any other one. */
+    static void bothEndsOfTheLastPiece(Check check) {
+        FloorGraph x = Floors.twoWayTwenty();
+        check.due("end 0 of piece 19", x.join(17, 1, 19, 0, 2), 0);
+        check.due("end 1 of piece 19", x.join(19, 1, 18, 1, 3), 1);
+        check.due("through it", x.way(0, 17, 18, 0), 10);
+        check.due("back through it", x.way(0, 18, 17, 0), 10);
+        check.due("from it", x.way(0, 19, 17, 0), 2);
+    }
 }

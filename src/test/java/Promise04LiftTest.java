@@ -115,4 +115,23 @@ public final class Promise04LiftTest {
         check.refusedWhole("one level", wrong, Floors::fullOfJoins, x -> x.lift(0, 1, 0));
         check.refusedWhole("seconds 101", wrong, Floors::fullOfJoins, x -> x.lift(0, 2, 101));
     }
+
+    /** "between ends 1 of two pieces": of just these, whatever their numbers are. */
+    static void ofJustThesePieces(Check check) {
+        for (int piece = 0; piece < 20; piece++) {
+            FloorGraph x = new FloorGraph();
+            int other = 19 - piece;
+            for (int i = 0; i < 20; i++) {
+                x.piece(i == other ? 9 : 0, 5, true);
+            }
+            x.robot(50);
+            x.lift(piece, other, 4);
+            check.due("from " + piece, x.way(0, piece, other, 0), 4);
+            check.due("to " + piece, x.way(0, other, piece, 0), 4);
+            int beside = (piece + 1) % 20 == other ? (piece + 2) % 20 : (piece + 1) % 20;
+            x.join(beside, 0, piece, 0, 1);
+            check.due("through " + piece, x.way(0, beside, other, 0), 10);
+            check.due("back through " + piece, x.way(0, other, beside, 0), 10);
+        }
+    }
 }

@@ -130,4 +130,12 @@ public final class Promise09RobotTest {
         }
         check.unsupported("robot 6", () -> x.robot(100));
     }
+
+    /** "wider than all pieces": than all twenty, or not than the last one. */
+    static void twentyPieces(Check check) {
+        FloorGraph x = Floors.twoWayTwenty();
+        check.due("wider than all", x.robot(101), -1);
+        x.width(19, 101);
+        check.due("as wide as the last one", x.robot(101), 1);
+    }
 }

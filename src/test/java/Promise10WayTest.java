@@ -242,4 +242,22 @@ public final class Promise10WayTest {
         check.due("5 seconds over two pieces", x.way(0, 0, 3, 0), 5);
         check.due("5 seconds back", x.way(0, 3, 0, 0), 5);
     }
+
+    /** Twenty pieces in a ring and forty joins, which are as many as there can be. */
+    static void onAFullFloor(Check check) {
+        FloorGraph x = Floors.twoWayTwenty();
+        for (int i = 0; i < 20; i++) {
+            x.join(i, 1, (i + 1) % 20, 0, 2);
+            x.join((i + 1) % 20, 0, i, 1, 1);
+        }
+        check.due("half round", x.way(0, 0, 10, 0), 10 + 9 * 5);
+        check.due("from the last one on", x.way(0, 19, 0, 0), 1);
+        check.due("to the last one", x.way(0, 0, 19, 0), 1);
+        check.due("through the last one", x.way(0, 18, 0, 0), 7);
+        for (int join = 0; join < 40; join++) {
+            x.turn(join, 1 - join % 2, true);
+        }
+        check.due("upwards only: once round to the last one", x.way(0, 0, 19, 0), 19 + 18 * 5);
+        check.due("and once round to the one before it", x.way(0, 19, 18, 0), 19 + 18 * 5);
+    }
 }

@@ -253,4 +253,16 @@ public final class Promise11StepTest {
         x.way(0, 0, 3, 0);
         check.due("steps", Floors.steps(x), "0 1 2 1 3");
     }
+
+    /** "An end that is reached at second 0": at second 1 it has a join before it. */
+    static void reachedAtSecondOne(Check check) {
+        FloorGraph x = Floors.twoWay(5, 1, 1, 5);
+        x.join(0, 1, 1, 0, 0);
+        x.join(1, 1, 2, 0, 0);
+        x.join(2, 1, 3, 0, 0);
+        check.due("way over one", x.way(0, 0, 2, 0), 1);
+        check.due("steps over one", Floors.steps(x), "0 1 2");
+        check.due("way over two", x.way(0, 0, 3, 0), 2);
+        check.due("steps over two", Floors.steps(x), "0 1 2 3");
+    }
 }

@@ -128,4 +128,13 @@ public final class Promise14NearestTest {
             check.due("from " + piece, x.nearest(0, piece, 0), piece);
         }
     }
+
+    /** Twenty pieces: a charger at the last one, and none at any. */
+    static void twentyPieces(Check check) {
+        FloorGraph x = Floors.line(20);
+        check.due("no chargers", x.nearest(0, 19, 0), -1);
+        x.charger(19);
+        check.due("from the first one", x.nearest(0, 0, 0), 19);
+        check.due("from the last one", x.nearest(0, 19, 0), 19);
+    }
 }

@@ -211,4 +211,14 @@ public final class Promise17PlainTest {
         check.due("there", x.plain(0, 0, 1, 0, 0), 1);
         check.due("back", x.plain(0, 1, 0, 0, 0), 2);
     }
+
+    /** Twenty pieces: from the last one, to it and through it. */
+    static void twentyPieces(Check check) {
+        FloorGraph x = Floors.line(20);
+        x.join(19, 1, 0, 0, 1);
+        check.due("from the last one", x.plain(0, 19, 0, 0, 0), 1);
+        check.due("to the last one", x.plain(0, 0, 19, 0, 0), 1);
+        check.due("through the last one", x.plain(0, 18, 0, 0, 1), 1);
+        check.due("back through the last one", x.plain(0, 0, 18, 0, 5), 1);
+    }
 }
